@@ -1,0 +1,18 @@
+/** Runs all tests of the project; the last line counts them. */
+public final class AllTests {
+    private static final int RANDOM_RUNS = 1000;
+
+    private AllTests() {
+    }
+
+    public static void main(String[] args) {
+        FaceTests.all();
+        LanguageTests.all();
+        PromiseTests.all();
+        RandomRuns.all(RANDOM_RUNS);
+        System.out.println(Due.passed + " passed, " + Due.failed + " failed");
+        if (Due.failed != 0) {
+            System.exit(1);
+        }
+    }
+}

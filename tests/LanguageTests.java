@@ -1,0 +1,62 @@
+import java.io.IOException;
+import java.nio.file.Files;
+import java.nio.file.Path;
+import java.util.List;
+import java.util.regex.Pattern;
+
+/** What can be seen of LANGUAGE.md's rules from the lines of the source. */
+final class LanguageTests {
+    private static final String[] FORBIDDEN = {"->", "::", "\\btry\\b", "\\bcatch\\b", "\\bfinally\\b",
+        "\\bsynchronized\\b", "\\bassert\\b", "static \\{", "Exact\\(", "\\bdouble\\b", "\\bString\\b", "\\brecord\\b",
+        "^package ", "Math\\.(?!max|min|abs|floor)", "System\\.(?!arraycopy)", "Arrays\\.(?!copyOf|fill)",
+        "^import (?!java\\.util\\.Arrays;)", "while \\(true", "for \\(;", "\\bLambda\\b", "equals\\(", "hashCode"};
+    private static final int LONGEST_METHOD = 60;
+    private static final int MOST_PARAMETERS = 7;
+
+    private LanguageTests() {
+    }
+
+    private static String codeOf(String line) {
+        return line.replaceAll("^\\s*(/\\*\\*|//).*", "");
+    }
+
+    private static int countLines(List<String> lines, Pattern pattern) {
+        int count = 0;
+        for (String line : lines) {
+            count += pattern.matcher(codeOf(line)).find() ? 1 : 0;
+        }
+        return count;
+    }
+
+    static void all() {
+        List<String> lines;
+        try {
+            lines = Files.readAllLines(Path.of("src/main/java/ArrayFile.java"));
+        } catch (IOException e) {
+            Due.is("the source can be read", 1, 0);
+            return;
+        }
+        for (String pattern : FORBIDDEN) {
+            Due.is("lines with " + pattern, 0, countLines(lines, Pattern.compile(pattern)));
+        }
+        int classes = 0;
+        int start = -1;
+        String ending = "";
+        for (int i = 0; i < lines.size(); i++) {
+            String code = codeOf(lines.get(i));
+            classes += code.matches(".*\\b(class|interface|enum) .*\\{") ? 1 : 0;
+            if (start < 0 && code.matches("\\s+[\\w\\[\\]<>, ]*\\w+\\(.*\\) \\{") && !code.matches(
+                    "\\s+(if|for|while|switch|\\} else).*")) {
+                start = i;
+                ending = code.replaceAll("\\S.*", "") + "}";
+                Due.is("parameters in line " + (i + 1), 1,
+                        code.split(",").length <= MOST_PARAMETERS ? 1 : 0);
+            }
+            if (start >= 0 && code.equals(ending)) {
+                Due.is("length of the method in line " + (start + 1), 1, i - start <= LONGEST_METHOD ? 1 : 0);
+                start = -1;
+            }
+        }
+        Due.is("at most twelve classes", 1, classes >= 1 && classes <= 12 ? 1 : 0);
+    }
+}
