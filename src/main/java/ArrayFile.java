@@ -728,7 +728,12 @@ public final class ArrayFile {
         final int kind;
         final int chunkRows;
         final int chunkColumns;
+        final int chunkCells;
+        final int width;
         final int filters;
+        /** How far the bytes of two cells that follow are from one another, and those of one cell. */
+        final int cellStep;
+        final int byteStep;
         final int[] written = new int[CELLS];
         final int[] places = new int[CELLS];
         final int[] lengths = new int[CELLS];
@@ -741,6 +746,10 @@ public final class ArrayFile {
             this.filters = filters;
             chunkRows = chunk / 10;
             chunkColumns = chunk % 10;
+            chunkCells = chunkRows * chunkColumns;
+            width = WIDTHS[kind];
+            cellStep = (filters & SHUFFLE) != 0 ? 1 : width;
+            byteStep = (filters & SHUFFLE) != 0 ? chunkCells : 1;
             Arrays.fill(written, fill);
             Arrays.fill(places, NONE);
         }
@@ -771,14 +780,6 @@ public final class ArrayFile {
 
         int firstColumn(int chunk) {
             return chunk % SIDE * chunkColumns;
-        }
-
-        int chunkCells() {
-            return chunkRows * chunkColumns;
-        }
-
-        int chunkBytes() {
-            return chunkCells() * WIDTHS[kind];
         }
 
         boolean isBeyond(int chunk) {
@@ -820,7 +821,9 @@ public final class ArrayFile {
         private final int[] order = new int[CELLS];
 
         void empty() {
-            Arrays.fill(selected, false);
+            for (int i = 0; i < CELLS; i++) {
+                selected[i] = false;
+            }
             count = 0;
         }
 
@@ -915,7 +918,7 @@ public final class ArrayFile {
 
         /** Packs the cells of a chunk; answers how many bytes these are. */
         int pack(Table table, int[] cells) {
-            int size = table.chunkBytes();
+            int size = table.chunkCells * table.width;
             layBytes(table, cells);
             if ((table.filters & DIFFERENCES) != 0) {
                 for (int i = size - 1; i > 0; i--) {
@@ -937,7 +940,7 @@ public final class ArrayFile {
 
         /** Unpacks the bytes of a chunk into its cells; answers for what it is bad, or 0. */
         int unpack(Table table, int[] bytes, int place, int length, int[] cells) {
-            int size = table.chunkBytes();
+            int size = table.chunkCells * table.width;
             System.arraycopy(bytes, place, packed, 0, length);
             int rest = length;
             if ((table.filters & SUM) != 0) {
@@ -960,27 +963,21 @@ public final class ArrayFile {
             return 0;
         }
 
-        /** Where a byte of a cell stands among the bytes of a chunk. */
-        private static int byteAt(Table table, int cell, int part) {
-            boolean isShuffled = (table.filters & SHUFFLE) != 0;
-            return isShuffled ? part * table.chunkCells() + cell : cell * WIDTHS[table.kind] + part;
-        }
-
         private void layBytes(Table table, int[] cells) {
-            for (int i = 0; i < table.chunkCells(); i++) {
-                for (int part = 0; part < WIDTHS[table.kind]; part++) {
-                    raw[byteAt(table, i, part)] = (cells[i] >> (8 * part)) & 255;
+            for (int i = 0; i < table.chunkCells; i++) {
+                for (int part = 0; part < table.width; part++) {
+                    raw[i * table.cellStep + part * table.byteStep] = (cells[i] >> (8 * part)) & 255;
                 }
             }
         }
 
         private void takeBytes(Table table, int[] cells) {
-            for (int i = 0; i < table.chunkCells(); i++) {
+            for (int i = 0; i < table.chunkCells; i++) {
                 int value = 0;
-                for (int part = 0; part < WIDTHS[table.kind]; part++) {
-                    value |= raw[byteAt(table, i, part)] << (8 * part);
+                for (int part = 0; part < table.width; part++) {
+                    value |= raw[i * table.cellStep + part * table.byteStep] << (8 * part);
                 }
-                cells[i] = cut(value, table.kind);
+                cells[i] = table.kind == 0 ? (byte) value : value;
             }
         }
 
@@ -1123,7 +1120,7 @@ public final class ArrayFile {
         /** Gives the cells of the loaded chunk beyond the array the fill value; answers if one had another. */
         private boolean blankBeyond(Table table, int chunk) {
             boolean hasChanged = false;
-            for (int i = 0; i < table.chunkCells(); i++) {
+            for (int i = 0; i < table.chunkCells; i++) {
                 int row = table.firstRow(chunk) + i / table.chunkColumns;
                 int column = table.firstColumn(chunk) + i % table.chunkColumns;
                 if (cells[i] != table.fill && !table.has(row, column)) {
@@ -1135,7 +1132,7 @@ public final class ArrayFile {
         }
 
         private boolean isBlank(Table table) {
-            for (int i = 0; i < table.chunkCells(); i++) {
+            for (int i = 0; i < table.chunkCells; i++) {
                 if (cells[i] != table.fill) {
                     return false;
                 }
