@@ -463,6 +463,10 @@ final class PromiseTests {
         bytesAre("255 and one more", long256, 0, 255, 0, 1, 255, -1);
         ArrayFile all = withArray(808, 2, 88, 7, 1);
         all.write(1, 0, 0, 0);
+        all.spoil(1, 0, 0, 0);
+        all.spoil(1, 0, 0, 0);
+        Due.is("read back from 256 bytes", 1, all.read(1, 7, 7));
+        Due.is("read back from 256 bytes", 0, all.read(1, 0, 0));
         bytesAre("the longest run and the rest", all, 0, 1, 0, 1, 1, 62, 0, 1, 255, 191, 0, -1);
         ArrayFile like = withArray(808, 2, 88, 4, 1);
         select(like, 0, 0, 8, 8);
@@ -734,6 +738,7 @@ final class PromiseTests {
         resizeOfSpoiled();
         resizeInOrder();
         resizeWithoutPlace();
+        resizeGivenUp();
     }
 
     /** All cells 7: two bytes by RUNS, but four when one cell is beyond. */
@@ -764,6 +769,11 @@ final class PromiseTests {
     }
 
     private static void resizeOfSpoiled() {
+        ArrayFile w = withArray(104, 0, 12, 0, 0);
+        w.write(1, 0, 3, 5);
+        w.resize(1, 102);
+        w.resize(1, 104);
+        Due.is("the chunk that was read last is gone, too", 0, w.read(1, 0, 3));
         ArrayFile x = withArray(102, 0, 12, 8, 0);
         x.write(1, 0, 0, 3);
         x.write(1, 0, 1, 5);
@@ -835,6 +845,45 @@ final class PromiseTests {
         Due.is("used is as it was", 1499, x.used(false));
         x.write(1, 0, 0, 7);
         Due.is("it can be written", 7, x.read(1, 0, 0));
+    }
+
+    /** The chunk beyond goes, the first one partly beyond finds another place, the second one finds none. */
+    private static void resizeGivenUp() {
+        ArrayFile x = withArray(604, 0, 22, 4, 0);
+        array(x, "b", 2424, 2, 88, 0, 0);
+        array(x, "c", 824, 0, 88, 0, 0);
+        array(x, "d", 808, 0, 11, 0, 0);
+        view(x, "v", 604, 7);
+        select(x, 0, 0, 6, 2);
+        select(x, 1, 0, 6, 2);
+        x.copy(5, 1);
+        x.write(1, 0, 3, 7);
+        x.write(1, 0, 2, 7);
+        bytesAre("four chunks", x, 0, 4, 7, 4, 7, 4, 7, 2, 7, 2, 0, -1);
+        for (int i = 0; i < 5; i++) {
+            x.write(2, i / 3 * 8, i % 3 * 8, 1);
+        }
+        for (int i = 0; i < 3; i++) {
+            x.write(3, 0, 8 * i, 1);
+        }
+        for (int i = 0; i < 10; i++) {
+            x.write(4, i / 8, i % 8, 3);
+        }
+        Due.is("eight free", 1492, x.used(false));
+        Due.ise("no place", () -> x.resize(1, 501));
+        bytesAre("chunks are where they were", x, 0, 4, 7, 4, 7, 4, 7, 2, 7, 2, 0, 1, 0, 0, 0);
+        bytesAre("what was free is free", x, 1491, 3, -1, -1, -1, -1, -1, -1, -1, -1);
+        Due.is("used", 1492, x.used(false));
+        Due.is("one hole", 1, x.used(true));
+        Due.is("extents", 604, x.object(1, 2));
+        Due.is("chunks", 4, x.object(1, 3));
+        Due.is("bytes", 10, x.object(1, 4));
+        Due.is("the one beyond", 7, x.read(1, 0, 3));
+        Due.is("the first", 7, x.read(1, 1, 1));
+        Due.is("the second", 7, x.read(1, 3, 1));
+        Due.is("the last row", 7, x.plain(1, 5, 1));
+        Due.is("first byte of the first", 0, x.spoil(1, 0, 0, 0));
+        Due.is("last byte of the one beyond", 9, x.spoil(1, 0, 2, 3));
     }
 
     static void p16Clear() {

@@ -1084,7 +1084,6 @@ public final class ArrayFile {
             disk.restore();
             System.arraycopy(savedPlaces, 0, table.places, 0, CELLS);
             System.arraycopy(savedLengths, 0, table.lengths, 0, CELLS);
-            loaded = null;
             table.rows = oldRows;
             table.columns = oldColumns;
             table.kept = oldKept;
@@ -1140,7 +1139,7 @@ public final class ArrayFile {
             return true;
         }
 
-        /** Keeps the loaded chunk as its cells are now; false, and the file as it was, if it has no place. */
+        /** Keeps the loaded chunk anew; false if the file has no place: it is as it was, and nothing is loaded. */
         private boolean keep(Table table, int chunk) {
             if (isBlank(table)) {
                 drop(table, chunk);
