@@ -8,14 +8,23 @@ import java.util.TreeSet;
 
 /** The face is just what the document tells, and no private method bears the name of a public one. */
 final class FaceTests {
-    private static final Set<String> CALLS = new TreeSet<>(Arrays.asList("int array(int,int,int,int,int)",
-            "int bad(int,int,int)", "int clear(int)", "int copy(int,int)", "int fileAt(int)", "int find()",
-            "int group()", "int link(int)", "int map(int,int)", "int object(int,int)", "int plain(int,int,int)",
-            "int read(int,int,int)", "int resize(int,int)", "int slab(int,int,int,int,int)",
-            "int spoil(int,int,int,int)", "int trouble(int,boolean)", "int type(long)", "int unlink()",
-            "int used(boolean)", "int view(int,int)", "int write(int,int,int,int)"));
+    private static final Set<String> CALLS = new TreeSet<>(Arrays.asList("int array(int,int,int,int,int) AS",
+            "int bad(int,int,int) B", "int clear(int) B", "int copy(int,int) BAS", "int fileAt(int) B", "int find() A",
+            "int group() AS", "int link(int) BAS", "int map(int,int) BAS", "int object(int,int) BA", "int plain(int,int,int) B",
+            "int read(int,int,int) BS", "int resize(int,int) BAS", "int slab(int,int,int,int,int) BA",
+            "int spoil(int,int,int,int) B", "int trouble(int,boolean) B", "int type(long) AS", "int unlink() A",
+            "int used(boolean)", "int view(int,int) AS", "int write(int,int,int,int) BAS"));
 
     private FaceTests() {
+    }
+
+    /** The throws clause: B IndexOutOfBounds, A IllegalArgument, S IllegalState. */
+    private static String thrown(Method method) {
+        StringBuilder all = new StringBuilder();
+        for (Class<?> one : method.getExceptionTypes()) {
+            all.append(one == IndexOutOfBoundsException.class ? 'B' : one == IllegalArgumentException.class ? 'A' : 'S');
+        }
+        return all.toString();
     }
 
     static void all() {
@@ -29,7 +38,8 @@ final class FaceTests {
             if (Modifier.isPublic(method.getModifiers())) {
                 String parameters = Arrays.toString(Arrays.stream(method.getParameterTypes()).map(Class::getName)
                         .toArray()).replaceAll("[\\[\\] ]", "");
-                calls.add(method.getReturnType() + " " + method.getName() + "(" + parameters + ")");
+                calls.add((method.getReturnType() + " " + method.getName() + "(" + parameters + ") "
+                        + thrown(method)).trim());
                 publicNames.add(method.getName());
             }
         }

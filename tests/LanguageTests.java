@@ -45,12 +45,12 @@ final class LanguageTests {
         for (int i = 0; i < lines.size(); i++) {
             String code = codeOf(lines.get(i));
             classes += code.matches(".*\\b(class|interface|enum) .*\\{") ? 1 : 0;
-            if (start < 0 && code.matches("\\s+[\\w\\[\\]<>, ]*\\w+\\(.*\\) \\{") && !code.matches(
+            if (start < 0 && code.matches("\\s+[\\w\\[\\] ]*\\w+\\([\\w\\[\\], ]*\\)( throws .*)?( \\{)?") && !code.matches(
                     "\\s+(if|for|while|switch|\\} else).*")) {
                 start = i;
                 ending = code.replaceAll("\\S.*", "") + "}";
                 Due.is("parameters in line " + (i + 1), 1,
-                        code.split(",").length <= MOST_PARAMETERS ? 1 : 0);
+                        code.replaceAll("\\).*", "").split(",").length <= MOST_PARAMETERS ? 1 : 0);
             }
             if (start >= 0 && code.equals(ending)) {
                 Due.is("length of the method in line " + (start + 1), 1, i - start <= LONGEST_METHOD ? 1 : 0);

@@ -50,7 +50,7 @@ public final class ArrayFile {
 
     // ---- the line, links
 
-    public int type(long signs) {
+    public int type(long signs) throws IllegalArgumentException, IllegalStateException {
         int count = countSigns(signs);
         if (count == NONE) {
             throw new IllegalArgumentException();
@@ -65,14 +65,14 @@ public final class ArrayFile {
         return lineLength;
     }
 
-    public int find() {
+    public int find() throws IllegalArgumentException {
         if (!takePath()) {
             throw new IllegalArgumentException();
         }
         return walk(path, path.count, true, 0);
     }
 
-    public int group() {
+    public int group() throws IllegalArgumentException, IllegalStateException {
         if (!takePath()) {
             throw new IllegalArgumentException();
         }
@@ -80,7 +80,8 @@ public final class ArrayFile {
         return parent == null ? NONE : add(parent, new Group());
     }
 
-    public int array(int shape, int kind, int chunk, int filters, int fill) {
+    public int array(int shape, int kind, int chunk, int filters, int fill)
+            throws IllegalArgumentException, IllegalStateException {
         boolean isPath = takePath();
         if (!isPath || !isShape(shape) || !isKind(kind) || !isChunk(chunk)
                 || filters < 0 || filters > ALL_FILTERS || !isOfKind(fill, kind)) {
@@ -90,7 +91,7 @@ public final class ArrayFile {
         return parent == null ? NONE : add(parent, new Table(shape, kind, chunk, filters, fill));
     }
 
-    public int view(int shape, int fill) {
+    public int view(int shape, int fill) throws IllegalArgumentException, IllegalStateException {
         boolean isPath = takePath();
         if (!isPath || !isShape(shape)) {
             throw new IllegalArgumentException();
@@ -99,7 +100,7 @@ public final class ArrayFile {
         return parent == null ? NONE : add(parent, new View(shape, fill));
     }
 
-    public int link(int object) {
+    public int link(int object) throws IndexOutOfBoundsException, IllegalArgumentException, IllegalStateException {
         Node target = object == NONE ? null : nodeAt(object);
         boolean isTold = target == null ? takeTwoPaths() : takePath();
         if (!isTold) {
@@ -118,7 +119,7 @@ public final class ArrayFile {
         return parent.count;
     }
 
-    public int unlink() {
+    public int unlink() throws IllegalArgumentException {
         if (!takePath()) {
             throw new IllegalArgumentException();
         }
@@ -135,7 +136,7 @@ public final class ArrayFile {
         return dropUnlinked();
     }
 
-    public int trouble(int level, boolean place) {
+    public int trouble(int level, boolean place) throws IndexOutOfBoundsException {
         if (level < 0) {
             throw new IndexOutOfBoundsException();
         }
@@ -147,7 +148,8 @@ public final class ArrayFile {
 
     // ---- cells
 
-    public int write(int object, int row, int column, int value) {
+    public int write(int object, int row, int column, int value)
+            throws IndexOutOfBoundsException, IllegalArgumentException, IllegalStateException {
         Table table = tableAt(object);
         checkCell(table, row, column);
         if (!isOfKind(value, table.kind)) {
@@ -163,7 +165,7 @@ public final class ArrayFile {
         return before;
     }
 
-    public int read(int object, int row, int column) {
+    public int read(int object, int row, int column) throws IndexOutOfBoundsException, IllegalStateException {
         Grid grid = gridAt(object);
         checkCell(grid, row, column);
         if (look(grid, row, column) != 0) {
@@ -172,19 +174,19 @@ public final class ArrayFile {
         return seen;
     }
 
-    public int bad(int object, int row, int column) {
+    public int bad(int object, int row, int column) throws IndexOutOfBoundsException {
         Grid grid = gridAt(object);
         checkCell(grid, row, column);
         return look(grid, row, column);
     }
 
-    public int plain(int object, int row, int column) {
+    public int plain(int object, int row, int column) throws IndexOutOfBoundsException {
         Table table = tableAt(object);
         checkCell(table, row, column);
         return table.written[row * SIDE + column];
     }
 
-    public int spoil(int object, int row, int column, int which) {
+    public int spoil(int object, int row, int column, int which) throws IndexOutOfBoundsException {
         Table table = tableAt(object);
         checkCell(table, row, column);
         int chunk = table.chunkAt(row, column);
@@ -196,7 +198,8 @@ public final class ArrayFile {
         return place;
     }
 
-    public int resize(int object, int shape) {
+    public int resize(int object, int shape)
+            throws IndexOutOfBoundsException, IllegalArgumentException, IllegalStateException {
         Table table = tableAt(object);
         if (!isShape(shape)) {
             throw new IllegalArgumentException();
@@ -210,14 +213,15 @@ public final class ArrayFile {
 
     // ---- selections, views
 
-    public int clear(int which) {
+    public int clear(int which) throws IndexOutOfBoundsException {
         Selection selection = selectionAt(which);
         int count = selection.count;
         selection.empty();
         return count;
     }
 
-    public int slab(int which, int from, int rows, int columns, int steps) {
+    public int slab(int which, int from, int rows, int columns, int steps)
+            throws IndexOutOfBoundsException, IllegalArgumentException {
         Selection selection = selectionAt(which);
         int row = from / 100;
         int column = from % 100;
@@ -240,7 +244,8 @@ public final class ArrayFile {
         return selection.count;
     }
 
-    public int copy(int from, int to) {
+    public int copy(int from, int to)
+            throws IndexOutOfBoundsException, IllegalArgumentException, IllegalStateException {
         Grid source = gridAt(from);
         Table target = tableAt(to);
         if (!selections[0].isWithin(source) || !selections[1].isWithin(target)) {
@@ -255,7 +260,8 @@ public final class ArrayFile {
         return writeSelected(target);
     }
 
-    public int map(int view, int array) {
+    public int map(int view, int array)
+            throws IndexOutOfBoundsException, IllegalArgumentException, IllegalStateException {
         View target = viewOrNull(nodeAt(view));
         tableAt(array);
         if (target == null || !selections[1].isWithin(target)) {
@@ -278,7 +284,7 @@ public final class ArrayFile {
 
     // ---- what there is
 
-    public int object(int object, int what) {
+    public int object(int object, int what) throws IndexOutOfBoundsException, IllegalArgumentException {
         Node node = nodeAt(object);
         switch (what) {
             case 0:
@@ -296,7 +302,7 @@ public final class ArrayFile {
         }
     }
 
-    public int fileAt(int place) {
+    public int fileAt(int place) throws IndexOutOfBoundsException {
         if (place < 0 || place >= FILE_BYTES) {
             throw new IndexOutOfBoundsException();
         }
