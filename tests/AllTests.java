@@ -9,8 +9,12 @@ public final class AllTests {
         FaceTests.all();
         LanguageTests.all();
         PromiseTests.all();
+        LinkBoundaries.all();
+        CellBoundaries.all();
+        ExtentBoundaries.all();
+        SelectionBoundaries.all();
         RandomRuns.all(RANDOM_RUNS);
-        System.out.println(Due.passed + " passed, " + Due.failed + " failed");
+        System.out.println(Due.sentences + " sentences: " + Due.passed + " passed, " + Due.failed + " failed");
         if (Due.failed != 0) {
             System.exit(1);
         }

@@ -6,32 +6,50 @@ final class Due {
 
     static int passed = 0;
     static int failed = 0;
+    static int sentences = 0;
+    private static String sentence = "";
 
     private Due() {
     }
 
-    static void is(String what, long due, long got) {
-        if (due == got) {
+    /** The sentence of the document that the tests that follow stand for; failures are told with it. */
+    static void says(String words) {
+        sentence = words + "\n    ";
+        sentences++;
+    }
+
+    static void noSentence() {
+        sentence = "";
+    }
+
+    private static void same(String what, String due, String got) {
+        if (due.equals(got)) {
             passed++;
         } else {
             failed++;
-            System.out.println(what + ": due is " + due + ", answered was " + got);
+            System.out.println(sentence + what + ": due is " + due + ", answered was " + got);
+        }
+    }
+
+    static void is(String what, long due, long got) {
+        same(what, Long.toString(due), Long.toString(got));
+    }
+
+    static void answers(String what, String due, Call call) {
+        same(what, due, answer(call));
+    }
+
+    /** What a call answers, or the name of what it throws. */
+    static String answer(Call call) {
+        try {
+            return Integer.toString(call.go());
+        } catch (RuntimeException e) {
+            return e.getClass().getName();
         }
     }
 
     static void throwsIt(String what, Class<?> due, Call call) {
-        String got;
-        try {
-            got = Integer.toString(call.go());
-        } catch (RuntimeException e) {
-            got = e.getClass().getName();
-        }
-        if (got.equals(due.getName())) {
-            passed++;
-        } else {
-            failed++;
-            System.out.println(what + ": due is " + due.getName() + ", answered was " + got);
-        }
+        same(what, due.getName(), answer(call));
     }
 
     static void iae(String what, Call call) {
