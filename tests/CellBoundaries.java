@@ -230,6 +230,23 @@ final class CellBoundaries extends Calls {
         Due.is("read back", -1, four.read(1, 1, 1));
     }
 
+    private static void largestChunks() {
+        Due.says("chunks of 1 to 8 rows and 1 to 8 columns .. 2 all ints, of four .. filters backward");
+        for (int filters = 0; filters < 16; filters++) {
+            ArrayFile x = withArray(808, 2, 88, filters, 0);
+            for (int i = 0; i < 64; i++) {
+                x.write(1, i / 8, i % 8, i * i * 0x01030507 - i);
+            }
+            Due.is("one chunk", 1, x.object(1, 3));
+            Due.is("not BAD", 0, x.bad(1, 7, 7));
+            x.spoil(1, 0, 0, 0);
+            x.spoil(1, 0, 0, 0);
+            for (int i = 0; i < 64; i++) {
+                Due.is("filters " + filters, i * i * 0x01030507 - i, x.read(1, i / 8, i % 8));
+            }
+        }
+    }
+
     private static void differences() {
         Due.says("DIFFERENCES: each byte less the one ahead of it, as both came to this filter (the first one as it is),"
                 + " modulo 256");
@@ -711,6 +728,7 @@ final class CellBoundaries extends Calls {
         chunks();
         chunksBeyond();
         allFilters();
+        largestChunks();
         differences();
         runs();
         sums();

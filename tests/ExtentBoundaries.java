@@ -319,18 +319,18 @@ final class ExtentBoundaries extends Calls {
         Refused.iae("shape comes first", () -> nearlyFull(3, false), y -> y.resize(1, 100));
         Due.is("more extents need no place", 0, nearlyFull(0, false).resize(1, 2424));
         Due.is("the same need none", 0, nearlyFull(0, false).resize(1, 202));
-        for (int ones : new int[] {8, 1}) {
+        for (int ones : new int[] {10, 3}) {
             Refused.ise("the chunk beyond has gone, the next one has moved, and the one behind it has no place",
                     () -> threeChunks(ones), y -> y.resize(1, 501));
         }
-        ArrayFile w = threeChunks(0);
-        Due.is("two of eight bytes, one of four", 12 - 20, w.resize(1, 501));
+        ArrayFile w = threeChunks(2);
+        Due.is("two of eight bytes, one of four", 10 - 20, w.resize(1, 501));
         bytesAre("the last one at the lowest place", w, 0, 1, 7, 3, 0, -1);
         Due.is("the first one", 1484, w.spoil(1, 0, 0, 0));
         Due.is("the second one", 1492, w.spoil(1, 2, 0, 0));
     }
 
-    /** Three chunks of like cells, of two bytes, one beside them, and 16 bytes free less so many ones. */
+    /** Three chunks of like cells, of two bytes, one beside them, and 18 bytes free less so many ones. */
     private static ArrayFile threeChunks(int ones) {
         ArrayFile x = withArray(604, 0, 22, 4, 0);
         array(x, "b", 2424, 2, 88, 0, 0);
@@ -340,6 +340,7 @@ final class ExtentBoundaries extends Calls {
             x.write(1, i / 2, i % 2, 7);
         }
         x.write(1, 0, 3, 7);
+        x.write(1, 0, 2, 7);
         for (int i = 0; i < 5; i++) {
             x.write(2, i / 3 * 8, i % 3 * 8, 1);
         }
@@ -349,7 +350,7 @@ final class ExtentBoundaries extends Calls {
         for (int i = 0; i < ones; i++) {
             x.write(4, 0, i, 1);
         }
-        Due.is("bytes", 12, x.object(1, 4));
+        Due.is("bytes", 10, x.object(1, 4));
         return x;
     }
 

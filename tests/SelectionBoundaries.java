@@ -26,7 +26,8 @@ final class SelectionBoundaries extends Calls {
         Due.is("none", 0, x.clear(1));
         Due.is("all", 576, x.slab(1, 0, 24, 24, 11));
         Due.is("had all", 576, x.clear(1));
-        Due.is("a cell that it had", 1, x.slab(1, 2323, 1, 1, 11));
+        Due.is("the last cell that it had", 1, x.slab(1, 2323, 1, 1, 11));
+        Due.is("the first cell that it had", 2, x.slab(1, 0, 1, 1, 11));
     }
 
     private static void whichCells() {
@@ -305,6 +306,14 @@ final class SelectionBoundaries extends Calls {
         Refused.ise("the last one of three is BAD: none is written", SelectionBoundaries::lastIsBad,
                 x -> x.copy(1, 2));
         ArrayFile y = lastIsBad();
+        Due.ise("the last one is BAD", () -> y.copy(1, 2));
+        Due.ise("in from, too", () -> y.copy(2, 1));
+        select(y, 0, 0, 1, 2);
+        select(y, 1, 0, 1, 2);
+        Due.is("without the last one", 2, y.copy(1, 2));
+        Due.is("from that, too", 2, y.copy(2, 1));
+        select(y, 0, 0, 1, 3);
+        select(y, 1, 0, 1, 3);
         y.spoil(2, 0, 2, 0);
         Due.is("not BAD any more", 3, y.copy(1, 2));
     }
@@ -459,6 +468,15 @@ final class SelectionBoundaries extends Calls {
         Due.is("has it not: a column", -100000, x.read(1, 0, 0));
         x.resize(2, 2324);
         Due.is("has it not: a row", -100000, x.read(1, 0, 0));
+        for (int cell : new int[] {1, 100}) {
+            ArrayFile y = withMaps(0, cell, 0);
+            y.map(1, 2);
+            Due.is("has it", 1, y.read(1, 0, 0));
+            y.resize(2, cell == 1 ? 102 : 201);
+            Due.is("has it in its last row or column", 1, y.read(1, 0, 0));
+            y.resize(2, cell == 1 ? 201 : 102);
+            Due.is("has it not any more", -100000, y.read(1, 0, 0));
+        }
     }
 
     private static void orderOfMaps() {
