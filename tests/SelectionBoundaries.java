@@ -425,8 +425,11 @@ final class SelectionBoundaries extends Calls {
         Due.ise("the seventh of no cells", () -> x.map(1, 2));
         unlink(x, "a");
         Due.ise("maps of gone arrays are there, too", () -> x.map(1, 3));
+        Due.ioobe("a gone array", () -> x.map(1, 2));
         view(x, "w", 101, 0);
         Due.is("another view has its own", 1, x.map(5, 3));
+        unlink(x, "w");
+        Due.ioobe("a gone view", () -> x.map(5, 3));
         Due.says("fill: any int");
         for (int fill : new int[] {MIN, -1, 0, MAX}) {
             ArrayFile y = new ArrayFile();
