@@ -13,6 +13,7 @@ public final class AllTests {
         CellBoundaries.all();
         ExtentBoundaries.all();
         SelectionBoundaries.all();
+        MixedRuns.all();
         RandomRuns.all(RANDOM_RUNS);
         System.out.println(Due.sentences + " sentences: " + Due.passed + " passed, " + Due.failed + " failed");
         if (Due.failed != 0) {

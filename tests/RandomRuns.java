@@ -1,31 +1,9 @@
 /** Runs of calls with arguments from a fixed row of numbers: the class has to answer as Model does. */
-final class RandomRuns {
-    private static final int CALLS = 512;
+final class RandomRuns extends Both {
     private static final String[] NAMES = {"a", "b", "c", "dd", "eee", "ffff", "g", "h", "i", "j", "k", "l", "m", "n"};
 
-    private final int run;
-    private long state;
-    private final ArrayFile real = new ArrayFile();
-    private final Model model = new Model();
-    private final StringBuilder log = new StringBuilder();
-    private int calls = 0;
-    private boolean isWrong = false;
-
     private RandomRuns(int run) {
-        this.run = run;
-        state = run * 2654435769L + 12345;
-        for (int i = 0; i < 8; i++) {
-            below(2);
-        }
-    }
-
-    private int below(int bound) {
-        state = state * 6364136223846793005L + 1442695040888963407L;
-        return (int) ((state >>> 33) % bound);
-    }
-
-    private boolean chance(int percent) {
-        return below(100) < percent;
+        super(run);
     }
 
     static void all(int runs) {
@@ -34,110 +12,6 @@ final class RandomRuns {
             one.go();
             Due.is("random run " + run, 0, one.isWrong ? 1 : 0);
         }
-    }
-
-
-    private static String answer(Due.Call call) {
-        try {
-            return Integer.toString(call.go());
-        } catch (RuntimeException e) {
-            return e.getClass().getSimpleName();
-        }
-    }
-
-    private int call(String name, Due.Call ofReal, Due.Call ofModel) {
-        if (isWrong || calls >= CALLS) {
-            return -1;
-        }
-        calls++;
-        String got = answer(ofReal);
-        String due = answer(ofModel);
-        log.append(name).append(" = ").append(got).append('\n');
-        if (!got.equals(due)) {
-            isWrong = true;
-            System.out.println("run " + run + ", call " + calls + ": due is " + due + "\n" + log);
-        }
-        return got.matches("-?[0-9]+") ? Integer.parseInt(got) : -1;
-    }
-
-    // ---- the calls, of both
-
-    private void type(long signs) {
-        call("type(" + signs + ")", () -> real.type(signs), () -> model.type(signs));
-    }
-
-    private void typeText(String text) {
-        for (int i = 0; i < text.length(); i += 8) {
-            type(Due.signs(text.substring(i, Math.min(text.length(), i + 8))));
-        }
-    }
-
-    private int array(int shape, int kind, int chunk, int filters, int fill) {
-        return call("array(" + shape + ", " + kind + ", " + chunk + ", " + filters + ", " + fill + ")",
-                () -> real.array(shape, kind, chunk, filters, fill),
-                () -> model.array(shape, kind, chunk, filters, fill));
-    }
-
-    private int view(int shape, int fill) {
-        return call("view(" + shape + ", " + fill + ")", () -> real.view(shape, fill), () -> model.view(shape, fill));
-    }
-
-    private void link(int object) {
-        call("link(" + object + ")", () -> real.link(object), () -> model.link(object));
-    }
-
-    private void trouble(int level, boolean place) {
-        call("trouble(" + level + ", " + place + ")", () -> real.trouble(level, place),
-                () -> model.trouble(level, place));
-    }
-
-    private void cell(int which, int object, int row, int column, int more) {
-        String told = "(" + object + ", " + row + ", " + column + ", " + more + ")";
-        switch (which) {
-            case 0 -> call("write" + told, () -> real.write(object, row, column, more),
-                    () -> model.write(object, row, column, more));
-            case 1 -> call("read" + told, () -> real.read(object, row, column), () -> model.read(object, row, column));
-            case 2 -> call("bad" + told, () -> real.bad(object, row, column), () -> model.bad(object, row, column));
-            case 3 -> call("plain" + told, () -> real.plain(object, row, column),
-                    () -> model.plain(object, row, column));
-            default -> call("spoil" + told, () -> real.spoil(object, row, column, more),
-                    () -> model.spoil(object, row, column, more));
-        }
-    }
-
-    private void resize(int object, int shape) {
-        call("resize(" + object + ", " + shape + ")", () -> real.resize(object, shape),
-                () -> model.resize(object, shape));
-    }
-
-    private void clear(int which) {
-        call("clear(" + which + ")", () -> real.clear(which), () -> model.clear(which));
-    }
-
-    private void slab(int which, int from, int rows, int columns, int steps) {
-        call("slab(" + which + ", " + from + ", " + rows + ", " + columns + ", " + steps + ")",
-                () -> real.slab(which, from, rows, columns, steps),
-                () -> model.slab(which, from, rows, columns, steps));
-    }
-
-    private void copy(int from, int to) {
-        call("copy(" + from + ", " + to + ")", () -> real.copy(from, to), () -> model.copy(from, to));
-    }
-
-    private void map(int view, int array) {
-        call("map(" + view + ", " + array + ")", () -> real.map(view, array), () -> model.map(view, array));
-    }
-
-    private void object(int object, int what) {
-        call("object(" + object + ", " + what + ")", () -> real.object(object, what), () -> model.object(object, what));
-    }
-
-    private void fileAt(int place) {
-        call("fileAt(" + place + ")", () -> real.fileAt(place), () -> model.fileAt(place));
-    }
-
-    private void used(boolean holes) {
-        call("used(" + holes + ")", () -> real.used(holes), () -> model.used(holes));
     }
 
     // ---- arguments
@@ -238,16 +112,24 @@ final class RandomRuns {
                 object(number(), 1);
             }
             case 5 -> {
-                typeText(line(path(3)));
-                call("unlink()", real::unlink, model::unlink);
+                unlink(line(path(3)));
             }
             default -> {
-                typeText(line(path(5)));
-                call("find()", real::find, model::find);
+                find(line(path(5)));
                 for (int level = below(7); level >= 0; level--) {
                     trouble(level - (chance(2) ? 1 : 0), chance(50));
                 }
             }
+        }
+    }
+
+    private void cell(int which, int object, int row, int column, int more) {
+        switch (which) {
+            case 0 -> write(object, row, column, more);
+            case 1 -> read(object, row, column);
+            case 2 -> bad(object, row, column);
+            case 3 -> plain(object, row, column);
+            default -> spoil(object, row, column, more);
         }
     }
 
@@ -330,7 +212,7 @@ final class RandomRuns {
         copy(5, runs);
         int wide = chance(50) ? 2 : 4;
         for (int i = 0; i < 40 && model.used(false) < 1480; i++) {
-            cell(0, wide, below(side(wide, true)), below(side(wide, false)), 1 + below(100));
+            write(wide, below(side(wide, true)), below(side(wide, false)), 1 + below(100));
         }
         for (int i = below(6); i >= 0; i--) {
             resize(runs, 100 * (1 + below(rows)) + 1 + below(columns));
@@ -378,29 +260,6 @@ final class RandomRuns {
             resize(numberOf('a'), shape(chance(60) ? 5 : 24));
         } else {
             looks();
-        }
-    }
-
-    /** Looks at all that there is; these calls are not among those of the run. */
-    private void compareAll() {
-        calls = -100000;
-        for (int place = 0; place < 1500; place++) {
-            fileAt(place);
-        }
-        used(true);
-        used(false);
-        for (int object = 0; object < model.ever; object++) {
-            for (int what = 0; what < 5; what++) {
-                object(object, what);
-            }
-            Model.Thing thing = model.things.get(object);
-            for (int row = 0; thing != null && row < thing.rows; row++) {
-                for (int column = 0; column < thing.columns; column++) {
-                    cell(1, object, row, column, 0);
-                    cell(2, object, row, column, 0);
-                    cell(3, object, row, column, 0);
-                }
-            }
         }
     }
 
