@@ -8,11 +8,13 @@ public final class AllTests {
     public static void main(String[] args) {
         FaceTests.all();
         LanguageTests.all();
+        ReadmeTests.all();
         PromiseTests.all();
         LinkBoundaries.all();
         CellBoundaries.all();
         ExtentBoundaries.all();
         SelectionBoundaries.all();
+        Stories.all();
         MixedRuns.all();
         RandomRuns.all(RANDOM_RUNS);
         System.out.println(Due.sentences + " sentences: " + Due.passed + " passed, " + Due.failed + " failed");

@@ -1,4 +1,6 @@
 import java.io.IOException;
+import java.lang.reflect.Field;
+import java.lang.reflect.Modifier;
 import java.nio.file.Files;
 import java.nio.file.Path;
 import java.util.List;
@@ -58,5 +60,43 @@ final class LanguageTests {
             }
         }
         Due.is("at most twelve classes", 1, classes >= 1 && classes <= 12 ? 1 : 0);
+        checkConstructors(lines);
+        checkFields(ArrayFile.class);
+        for (Class<?> inside : ArrayFile.class.getDeclaredClasses()) {
+            checkFields(inside);
+        }
+    }
+
+    /** Rule 6: no throw in a constructor. */
+    private static void checkConstructors(List<String> lines) {
+        String ending = "";
+        int count = 0;
+        for (String line : lines) {
+            if (line.matches("\\s+(public )?[A-Z]\\w*\\(.*\\) \\{")) {
+                ending = line.replaceAll("\\S.*", "") + "}";
+                count++;
+            } else if (line.equals(ending)) {
+                ending = "";
+            }
+            if (!ending.isEmpty()) {
+                Due.is("throw in a constructor: " + line, 0, line.contains("throw ") ? 1 : 0);
+            }
+        }
+        Due.is("constructors were read", 1, count > 5 ? 1 : 0);
+    }
+
+    /** Rules 3, 5 and 11: the types of fields, static ones final, and at most twenty others. */
+    private static void checkFields(Class<?> one) {
+        int count = 0;
+        for (Field field : one.getDeclaredFields()) {
+            Class<?> type = field.getType();
+            boolean isStatic = Modifier.isStatic(field.getModifiers());
+            Class<?> part = type.isArray() ? type.getComponentType() : type;
+            Due.is("type of " + field, 1, part == int.class || part == boolean.class
+                    || part.getEnclosingClass() == ArrayFile.class && !isStatic ? 1 : 0);
+            Due.is("static and not final: " + field, 1, !isStatic || Modifier.isFinal(field.getModifiers()) ? 1 : 0);
+            count += isStatic ? 0 : 1;
+        }
+        Due.is("at most twenty fields in " + one, 1, count <= 20 ? 1 : 0);
     }
 }
