@@ -430,9 +430,9 @@ abstract class MixedRuns extends Both {
             makeArray("d", 505, 0, 33, 12, 0);
             makeView("v", 606, 3);
             makeView("w", 505, -3);
-            for (int array = 1; array <= 4; array++) {
-                selectAll(array, 4 + (array + 1) / 2);
-                map(4 + (array + 1) / 2, array);
+            for (int array = 1; array <= 2; array++) {
+                selectAll(array, 4 + array);
+                map(4 + array, array);
             }
             for (int i = 0; i < 60; i++) {
                 writeSomewhere(1 + below(4));
